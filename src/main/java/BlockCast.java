@@ -62,6 +62,7 @@ public final class BlockCast {
         chooser = new Chooser();
         scribe = new Scribe();
         decoder = new Decoder();
+        decoder.startAt(0);
     }
 
     // ---- canvas
@@ -969,6 +970,8 @@ public final class BlockCast {
 
     /** Chooses how a picture is split, guessed and made coarse, and builds it as the decoder will. */
     private static final class Chooser {
+        // more than any part can cost
+        private static final int FAR_COST = 1000000;
         private final Builder builder = new Builder();
         private final Part part = new Part();
 
@@ -1018,29 +1021,25 @@ public final class BlockCast {
             part.firstVector = picture.leansOnFirst() ? search(builder.first, canvas, stride) : NONE;
             part.secondVector = picture.leansOnSecond() ? search(builder.second, canvas, stride) : NONE;
             builder.takeBorder(picture.pixels, part);
-            part.mode = cheapestMode(picture.modeCount(), canvas);
-            builder.guessPart(part);
-            picture.note(part);
-        }
-
-        private int cheapestMode(int modes, int[] canvas) {
-            int found = 0;
-            int least = Integer.MAX_VALUE;
-            for (int mode = 0; mode < modes; mode++) {
+            int cheapest = 0;
+            int least = FAR_COST;
+            for (int mode = 0; mode < picture.modeCount(); mode++) {
                 part.mode = mode;
                 builder.guessPart(part);
                 int cost = builder.guessError(canvas, part) + part.extraCost();
                 if (cost < least) {
                     least = cost;
-                    found = mode;
+                    cheapest = mode;
                 }
             }
-            return found;
+            part.mode = cheapest;
+            builder.guessPart(part);
+            picture.note(part);
         }
 
         private int search(Halves halves, int[] canvas, int stride) {
             int found = Vectors.of(0, 0);
-            int least = Integer.MAX_VALUE;
+            int least = FAR_COST;
             int apart = stride > 1 ? stride : 1;
             for (int down = -REACH; down <= REACH; down += apart) {
                 for (int right = -REACH; right <= REACH; right += apart) {
@@ -1063,9 +1062,10 @@ public final class BlockCast {
         private static final int FULL_CHANCE = 2048;
         private static final long FOUR_BYTES = 4294967295L;
         private static final long LEAST_WIDTH = 16777216L;
-        // More than a slice can need: a level has 12 bits in contexts for its number, 1 more and 20 plain ones at most,
-        // and no bit in a context is longer than 7 plain ones; the rest of a slice is less than all of its levels.
-        private static final int MOST_BYTES = 8192;
+        // More than a slice can need: a chance stays from 31 to 2017, so that a bit in a context is no longer than 6.1
+        // plain ones. 256 levels of 13 bits in contexts and 20 plain ones, and what is told of 16 parts and 16 squares,
+        // are together less than 32000 plain bits.
+        private static final int MOST_BYTES = 4096;
         private static final int LAST_CONTEXT = 5;
         private static final int COUNTED = 11;
         private final int[] chances = new int[CONTEXTS];
@@ -1294,11 +1294,6 @@ public final class BlockCast {
         private final int[] keptClean = new int[MOST_KEPT];
         private int sentCount = 0;
         private int cleanCount = 0;
-
-        Decoder() {
-            Rows.set(shownPixels, GREY);
-            Rows.set(keptPixels, GREY);
-        }
 
         void startAt(int picture) {
             next = picture;
