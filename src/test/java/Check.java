@@ -6,8 +6,15 @@ final class Check {
 
     private static int wrong = 0;
     private static int looked = 0;
+    private static String sentence = "";
 
     private Check() {
+    }
+
+    /** Says which words of the document the answers that follow are about; they must stand in it. */
+    static void sentence(String section, String words) {
+        sentence = section + ", \"" + words + "\": ";
+        same("the document says this", Doc.has(section, words) ? "yes" : "no", "yes");
     }
 
     /** An answer as a text, or what the call throws, as the class's name behind "throws". */
@@ -28,7 +35,7 @@ final class Check {
         if (!got.equals(want)) {
             wrong++;
             if (wrong <= 50) {
-                System.out.println(what + " answered " + got + ", due is " + want);
+                System.out.println(sentence + what + " answered " + got + ", due is " + want);
             }
         }
     }

@@ -61,6 +61,7 @@ final class FaceTest {
         classes();
         text(Files.readAllLines(Path.of("src/main/java/BlockCast.java")));
         manyCalls();
+        all512Calls();
         Check.end("FaceTest");
     }
 
@@ -173,6 +174,46 @@ final class FaceTest {
                     }
                 }
             }
+        }
+    }
+
+    /** The dearest calls, up to the last one that an object is used for: they answer, and need little room. */
+    private static void all512Calls() {
+        Check.sentence("What it is", "An object is used for at most 512 calls after it has been made");
+        com.sun.management.ThreadMXBean threads
+                = (com.sun.management.ThreadMXBean) java.lang.management.ManagementFactory.getThreadMXBean();
+        for (int pictures = 1; pictures <= 12; pictures += 11) {
+            int count = pictures;
+            long before = threads.getCurrentThreadAllocatedBytes();
+            BlockCast cast = new BlockCast();
+            int calls = prepare(cast, count);
+            for (; calls < 511; calls++) {
+                refusedCode(cast, count);
+            }
+            long used = threads.getCurrentThreadAllocatedBytes() - before;
+            Check.due("the call 512", cast::pictures, count);
+            Check.due("less than a million elements: " + used, () -> used < 4000000, true);
+        }
+    }
+
+    private static int prepare(BlockCast cast, int pictures) {
+        cast.grain(1, 99);
+        cast.setCoarseness(1);
+        for (int i = 0; i < pictures; i++) {
+            cast.code(i == 0 ? 'i' : 'b', 0, 0);
+        }
+        cast.setBucket(1, 0);
+        return pictures + 3;
+    }
+
+    private static void refusedCode(BlockCast cast, int pictures) {
+        try {
+            cast.code('b', 0, 0);
+            Check.same("a full bucket, or 12 pictures", "coded", "refused");
+        } catch (UnsupportedOperationException e) {
+            Check.due("a full bucket", () -> pictures < 12, true);
+        } catch (IllegalStateException e) {
+            Check.due("12 pictures", () -> pictures, 12);
         }
     }
 }

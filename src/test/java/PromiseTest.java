@@ -1,9 +1,8 @@
 /** Each promise by itself, with answers that are worked out by hand from the document. */
 final class PromiseTest {
-    private static final int LEAST = Integer.MIN_VALUE;
-    private static final int MOST = Integer.MAX_VALUE;
-    /** The bits of a picture that is 128 everywhere, coded as 'i' without tools: six bytes. */
-    private static final int GREY_BITS = 48;
+    private static final int LEAST = Made.LEAST;
+    private static final int MOST = Made.MOST;
+    private static final int GREY_BITS = Made.GREY_BITS;
 
     private PromiseTest() {
     }
@@ -43,19 +42,6 @@ final class PromiseTest {
         shown();
         totals();
         Check.end("PromiseTest");
-    }
-
-    /** A coder with coarseness and tools, whose canvas has one value. */
-    private static BlockCast flat(int value, int coarseness, int tools) {
-        BlockCast cast = new BlockCast();
-        cast.setCoarseness(coarseness);
-        cast.setTools(tools);
-        cast.fill(0, 0, 16, 16, value);
-        return cast;
-    }
-
-    private static void paint(BlockCast cast, int value) {
-        cast.fill(0, 0, 16, 16, value);
     }
 
     // ---- promise 1
@@ -123,15 +109,15 @@ final class PromiseTest {
     private static void grain() {
         // the numbers behind the seed 0 are 12345, 3554416254, 2802067423; their upper halves 0, 54236, 42756
         BlockCast cast = new BlockCast();
-        paint(cast, 100);
-        Check.due("grain", () -> cast.grain(0, 1), new Model().grain(0, 1));
+        Made.paint(cast, 100);
+        cast.grain(0, 1);
         Check.due("grain at 0, 0", () -> cast.pixel(0, 0), 99);
         Check.due("grain at 1, 0", () -> cast.pixel(1, 0), 101);
         Check.due("grain at 2, 0", () -> cast.pixel(2, 0), 99);
-        paint(cast, 255);
+        Made.paint(cast, 255);
         cast.grain(0, 1);
         Check.due("held at 255", () -> cast.pixel(1, 0), 255);
-        paint(cast, 0);
+        Made.paint(cast, 0);
         cast.grain(0, 99);
         Check.due("held at 0", () -> cast.pixel(0, 0), 0);
         Check.due("size 99 at 1, 0", () -> cast.pixel(1, 0), 54236 % 199 - 99);
@@ -139,7 +125,9 @@ final class PromiseTest {
         for (int size : new int[] {0, 100, -1, LEAST, MOST}) {
             Check.illegal("grain out of range", () -> cast.grain(1, size));
         }
-        Check.due("any seed", () -> cast.grain(LEAST, 1), new Model().grain(LEAST, 1));
+        // an odd number times LEAST is LEAST, so that behind 256 pixels, too, it is LEAST more than from the seed 0
+        int ofNone = cast.grain(0, 1);
+        Check.due("any seed", () -> cast.grain(LEAST, 1), ofNone + LEAST);
     }
 
     private static void move() {
@@ -168,13 +156,9 @@ final class PromiseTest {
         cast.slope(0, 1, 16);
         Check.due("pixel 15, 0", () -> cast.pixel(15, 0), 15);
         Check.due("pixel 0, 15", () -> cast.pixel(0, 15), 240);
-        for (int[] w : wrongPixels()) {
+        for (int[] w : Made.wrongPixels()) {
             Check.outside("no such pixel", () -> cast.pixel(w[0], w[1]));
         }
-    }
-
-    private static int[][] wrongPixels() {
-        return new int[][] {{-1, 0}, {0, -1}, {16, 0}, {0, 16}, {LEAST, 0}, {0, MOST}, {MOST, LEAST}};
     }
 
     // ---- promises 7 to 11: the settings
@@ -203,7 +187,7 @@ final class PromiseTest {
     }
 
     private static void setBucket() {
-        BlockCast cast = flat(128, 8, 0);
+        BlockCast cast = Made.flat(128, 8, 0);
         int[][] wrong = {{-1, 0}, {100000, 0}, {0, -1}, {0, 100000}, {1, 100000}, {LEAST, 0}, {1, MOST}};
         for (int[] w : wrong) {
             Check.illegal("setBucket out of range", () -> cast.setBucket(w[0], w[1]));
@@ -225,7 +209,7 @@ final class PromiseTest {
     // ---- promises 12 to 17: coding
 
     private static void codeRefuses() {
-        BlockCast cast = flat(128, 8, 0);
+        BlockCast cast = Made.flat(128, 8, 0);
         for (char kind : new char[] {'I', 'x', 0, 'P', 'B', 'a', 65535}) {
             Check.illegal("code of no kind", () -> cast.code(kind, 0, 0));
         }
@@ -255,7 +239,7 @@ final class PromiseTest {
     }
 
     private static void codeAnswers() {
-        BlockCast cast = flat(128, 8, 0);
+        BlockCast cast = Made.flat(128, 8, 0);
         Check.due("bits of grey", () -> cast.code('i', 0, 0), GREY_BITS);
         Check.due("six bytes", () -> cast.bytes(0, 0), 6);
         for (int i = 0; i < 6; i++) {
@@ -265,7 +249,7 @@ final class PromiseTest {
         cast.setSlices(2);
         int bits = cast.code('i', 0, 0);
         Check.due("bits of two slices", () -> 8 * (cast.bytes(1, 0) + cast.bytes(1, 1)), bits);
-        BlockCast refused = flat(128, 8, 0);
+        BlockCast refused = Made.flat(128, 8, 0);
         refused.setBucket(GREY_BITS - 1, 5);
         Check.due("one bit too much", () -> refused.code('i', 0, 0), "throws UnsupportedOperationException");
         Check.due("refused: no picture", refused::pictures, 0);
@@ -287,10 +271,10 @@ final class PromiseTest {
         steer("less than a quarter", 193, 8, 7);
         steer("up to 40", 48, 40, 40);
         steer("not below 1", 99999, 1, 1);
-        BlockCast none = flat(128, 8, 0);
+        BlockCast none = Made.flat(128, 8, 0);
         none.code('i', 0, 0);
         Check.due("no bucket steers nothing", none::coarseness, 8);
-        BlockCast cast = flat(128, 8, 0);
+        BlockCast cast = Made.flat(128, 8, 0);
         cast.setBucket(48, 48);
         cast.code('i', 0, 0);
         cast.code('i', 0, 0);
@@ -300,20 +284,20 @@ final class PromiseTest {
     }
 
     private static void steer(String what, int room, int before, int after) {
-        BlockCast cast = flat(128, before, 0);
+        BlockCast cast = Made.flat(128, before, 0);
         cast.setBucket(room, 0);
         Check.due(what + ": bits", () -> cast.code('i', 0, 0), GREY_BITS);
         Check.due(what, cast::coarseness, after);
     }
 
     private static void bucketLeaks() {
-        BlockCast cast = flat(128, 8, 0);
+        BlockCast cast = Made.flat(128, 8, 0);
         cast.setBucket(1000, 30);
         cast.code('i', 0, 0);
         Check.due("not below 0", cast::bucket, 48);
         cast.code('i', 0, 0);
         Check.due("less the leak", cast::bucket, 66);
-        BlockCast leaky = flat(128, 8, 0);
+        BlockCast leaky = Made.flat(128, 8, 0);
         leaky.setBucket(50, 48);
         leaky.code('i', 0, 0);
         Check.due("room comes from the leak", () -> leaky.code('i', 0, 0), GREY_BITS);
@@ -321,7 +305,7 @@ final class PromiseTest {
     }
 
     private static void keptPictures() {
-        BlockCast cast = flat(128, 8, 0);
+        BlockCast cast = Made.flat(128, 8, 0);
         Check.outside("none is kept", () -> cast.keptAt(0));
         cast.code('i', 0, 0);
         cast.setKept(false);
@@ -347,7 +331,7 @@ final class PromiseTest {
     // ---- promises 18 to 27: coded pictures
 
     private static void settingsOfPictures() {
-        BlockCast cast = flat(128, 3, 0);
+        BlockCast cast = Made.flat(128, 3, 0);
         cast.code('i', 0, 0);
         cast.setCoarseness(11);
         cast.code('p', 0, 0);
@@ -362,7 +346,7 @@ final class PromiseTest {
     }
 
     private static void bytesOfSlices() {
-        BlockCast cast = flat(128, 8, 0);
+        BlockCast cast = Made.flat(128, 8, 0);
         cast.code('i', 0, 0);
         cast.setSlices(2);
         cast.fill(0, 8, 16, 8, 0);
@@ -385,7 +369,7 @@ final class PromiseTest {
     }
 
     private static void parts() {
-        BlockCast cast = flat(100, 1, 1);
+        BlockCast cast = Made.flat(100, 1, 1);
         cast.fill(3, 3, 1, 1, 127);
         cast.fill(11, 3, 1, 1, 128);
         cast.code('i', 0, 0);
@@ -402,7 +386,7 @@ final class PromiseTest {
     }
 
     private static void borderModes() {
-        BlockCast cast = flat(50, 1, 0);
+        BlockCast cast = Made.flat(50, 1, 0);
         cast.code('i', 0, 0);
         Check.due("of all the same the lowest", () -> cast.modeAt(0, 0, 0), 0);
         Check.due("from the left", () -> cast.modeAt(0, 8, 0), 2);
@@ -411,7 +395,7 @@ final class PromiseTest {
         cast.slope(20, 2, 4);
         cast.code('i', 0, 0);
         Check.due("both less the corner", () -> cast.modeAt(1, 15, 15), 3);
-        paint(cast, 131);
+        Made.paint(cast, 131);
         cast.code('i', 0, 0);
         Check.due("3 more than the border", () -> cast.levelAt(2, 0, 0), 12);
         // left 131, above 128: the mode 0 guesses 130 and costs 64, the mode 2 costs 4
@@ -424,18 +408,18 @@ final class PromiseTest {
     }
 
     private static void leaningModes() {
-        BlockCast cast = flat(50, 1, 0);
+        BlockCast cast = Made.flat(50, 1, 0);
         cast.code('i', 0, 0);
-        paint(cast, 101);
+        Made.paint(cast, 101);
         cast.code('i', 0, 0);
-        paint(cast, 76);
+        Made.paint(cast, 76);
         cast.code('b', 0, 1);
         Check.due("mean of both, a half rounded up", () -> cast.modeAt(2, 0, 0), 6);
         Check.due("with a first vector", () -> cast.vectorAt(2, 0, 0, false), 808);
         Check.due("and a second one", () -> cast.vectorAt(2, 0, 0, true), 808);
         Check.due("exact", () -> cast.levelAt(2, 0, 0), 0);
         Check.due("of both the same the lowest", () -> cast.modeAt(2, 8, 8), 0);
-        paint(cast, 50);
+        Made.paint(cast, 50);
         cast.setKept(false);
         cast.code('b', 1, 2);
         Check.due("of the second", () -> cast.modeAt(3, 0, 0), 5);
@@ -453,7 +437,7 @@ final class PromiseTest {
     }
 
     private static void vectors() {
-        BlockCast cast = flat(0, 1, 4);
+        BlockCast cast = Made.flat(0, 1, 4);
         cast.slope(0, 2, 0);
         cast.code('i', 0, 0);
         Check.due("the slope is exact", () -> cast.errorOf(0), 0);
@@ -468,13 +452,13 @@ final class PromiseTest {
         cast.slope(1, 2, 0);
         cast.code('p', 0, 0);
         Check.due("none odd", () -> cast.vectorAt(3, 0, 0, false), 808);
-        BlockCast down = flat(0, 1, 4);
+        BlockCast down = Made.flat(0, 1, 4);
         down.slope(0, 0, 2);
         down.code('i', 0, 0);
         down.slope(1, 0, 2);
         down.code('p', 0, 0);
         Check.due("half a pixel down", () -> down.vectorAt(1, 0, 0, false), 809);
-        BlockCast moved = flat(0, 1, 0);
+        BlockCast moved = Made.flat(0, 1, 0);
         moved.grain(5, 90);
         moved.grain(6, 90);
         moved.grain(7, 90);
@@ -489,7 +473,7 @@ final class PromiseTest {
 
     private static void vectorEdges() {
         // a picture with the columns 0 to 15 times 10, moved by more than the reach: all outside has the nearest
-        BlockCast cast = flat(0, 1, 0);
+        BlockCast cast = Made.flat(0, 1, 0);
         cast.slope(0, 10, 0);
         cast.code('i', 0, 0);
         cast.slope(150, 0, 0);
@@ -500,14 +484,14 @@ final class PromiseTest {
         Check.due("the mode", () -> cast.modeAt(1, 8, 0), 4);
         // in the block 0 all is 0: moved by 4 to the left, 0 0 0 0 0 10 20 30
         Check.due("and at the left side", () -> cast.vectorAt(1, 0, 0, false), 8);
-        BlockCast tie = flat(0, 1, 4);
+        BlockCast tie = Made.flat(0, 1, 4);
         tie.setKept(true);
         tie.fill(0, 0, 16, 16, 90);
         tie.code('i', 0, 0);
         tie.code('p', 0, 0);
         Check.due("the shortest of all the same", () -> tie.vectorAt(1, 0, 0, false), 808);
         // a checkerboard of pixels: moved by 1 in any of four directions it is the same; by rising second numbers first
-        BlockCast board = flat(0, 1, 0);
+        BlockCast board = Made.flat(0, 1, 0);
         for (int y = 0; y < 16; y++) {
             for (int x = y % 2; x < 16; x += 2) {
                 board.fill(x, y, 1, 1, 200);
@@ -521,14 +505,14 @@ final class PromiseTest {
     }
 
     private static void levels() {
-        BlockCast cast = flat(50, 1, 0);
+        BlockCast cast = Made.flat(50, 1, 0);
         cast.code('i', 0, 0);
         Check.due("the sum", () -> cast.levelAt(0, 0, 0), -312);
         Check.due("of each square", () -> cast.levelAt(0, 4, 4), -312);
         Check.due("no other", () -> cast.levelAt(0, 1, 0), 0);
         Check.due("built", () -> cast.built(0, 5, 5), 50);
         Check.due("without an error", () -> cast.errorOf(0), 0);
-        BlockCast bump = flat(128, 1, 0);
+        BlockCast bump = Made.flat(128, 1, 0);
         bump.fill(1, 0, 1, 1, 131);
         bump.code('i', 0, 0);
         // 3 plus 1, divided by 4; the column 1 of H is 1 1 -1 -1
@@ -555,19 +539,19 @@ final class PromiseTest {
         Check.due("v is down", () -> bump.levelAt(2, 3, 1), -1);
         Check.due("and has the sign", () -> bump.levelAt(2, 3, 2), 1);
         // 16 times 127, plus 30, divided by 120, is 17, which is built back as 128
-        BlockCast held = flat(255, 30, 0);
+        BlockCast held = Made.flat(255, 30, 0);
         held.code('i', 0, 0);
         Check.due("level of 127", () -> held.levelAt(0, 0, 0), 17);
         Check.due("held at 255", () -> held.built(0, 0, 0), 255);
         // 16 times 128, plus 40, divided by 160, is 13, which is built back as -130
-        BlockCast low = flat(0, 40, 0);
+        BlockCast low = Made.flat(0, 40, 0);
         low.code('i', 0, 0);
         Check.due("level of -128", () -> low.levelAt(0, 0, 0), -13);
         Check.due("held at 0", () -> low.built(0, 0, 0), 0);
     }
 
     private static BlockCast halves(int tools, int slices, int left, int right) {
-        BlockCast cast = flat(left, 8, tools);
+        BlockCast cast = Made.flat(left, 8, tools);
         cast.setSlices(slices);
         cast.fill(8, 0, 8, 16, right);
         cast.code('i', 0, 0);
@@ -587,13 +571,13 @@ final class PromiseTest {
         pair("10 is not less than 8 plus 2", halves(2, 1, 128, 138), 128, 138);
         pair("not to be smoothed", halves(5, 1, 128, 136), 128, 136);
         pair("in both slices", halves(2, 2, 128, 136), 130, 134);
-        BlockCast rows = flat(128, 8, 2);
+        BlockCast rows = Made.flat(128, 8, 2);
         rows.fill(0, 4, 16, 4, 136);
         rows.code('i', 0, 0);
         Check.due("above the edge 4", () -> rows.built(0, 9, 3), 130);
         Check.due("below the edge 4", () -> rows.built(0, 9, 4), 134);
         Check.due("above the edge 8", () -> rows.built(0, 9, 7), 134);
-        BlockCast lower = flat(128, 8, 2);
+        BlockCast lower = Made.flat(128, 8, 2);
         lower.fill(0, 8, 16, 8, 136);
         lower.code('i', 0, 0);
         lower.setSlices(2);
@@ -614,7 +598,7 @@ final class PromiseTest {
     }
 
     private static void slicesAreApart() {
-        BlockCast cast = flat(50, 1, 0);
+        BlockCast cast = Made.flat(50, 1, 0);
         cast.setSlices(2);
         cast.code('i', 0, 0);
         Check.due("above the lower slice all counts as 128", () -> cast.levelAt(0, 0, 8), -312);
@@ -629,7 +613,7 @@ final class PromiseTest {
     }
 
     private static void noSuchPictureOrPixel() {
-        BlockCast cast = flat(128, 8, 0);
+        BlockCast cast = Made.flat(128, 8, 0);
         cast.code('i', 0, 0);
         for (int picture : new int[] {-1, 1, 12, LEAST, MOST}) {
             Check.outside("kindOf", () -> cast.kindOf(picture));
@@ -644,7 +628,7 @@ final class PromiseTest {
             Check.outside("errorOf", () -> cast.errorOf(picture));
             Check.outside("heaviest", () -> cast.heaviest(picture));
         }
-        for (int[] w : wrongPixels()) {
+        for (int[] w : Made.wrongPixels()) {
             Check.outside("partAt", () -> cast.partAt(0, w[0], w[1]));
             Check.outside("modeAt", () -> cast.modeAt(0, w[0], w[1]));
             Check.outside("vectorAt", () -> cast.vectorAt(0, w[0], w[1], true));
@@ -656,13 +640,13 @@ final class PromiseTest {
     // ---- promises 28 and 29
 
     private static void heaviest() {
-        BlockCast cast = flat(128, 8, 0);
+        BlockCast cast = Made.flat(128, 8, 0);
         Check.outside("none", () -> cast.heaviest(0));
         cast.code('i', 0, 0);
         cast.code('i', 0, 0);
         cast.grain(3, 60);
         cast.code('i', 0, 0);
-        paint(cast, 128);
+        Made.paint(cast, 128);
         cast.code('i', 0, 0);
         Check.due("the most", () -> cast.heaviest(0), 2);
         Check.due("of several the lowest", () -> cast.heaviest(1), 0);
@@ -673,7 +657,7 @@ final class PromiseTest {
     }
 
     private static void commonest() {
-        BlockCast cast = flat(128, 8, 0);
+        BlockCast cast = Made.flat(128, 8, 0);
         Check.missing("none", cast::commonest);
         cast.slope(0, 0, 16);
         cast.setTools(1);
@@ -682,13 +666,13 @@ final class PromiseTest {
         // the row values guess all from the left but at the left side: 12 parts of 16 have the mode 2
         Check.due("of parts of 4", () -> cast.modeAt(0, 15, 15), 2);
         Check.due("commonest", cast::commonest, 2);
-        BlockCast large = flat(128, 8, 0);
+        BlockCast large = Made.flat(128, 8, 0);
         large.code('i', 0, 0);
         large.setTools(1);
         large.fill(0, 0, 1, 1, 0);
         large.code('i', 0, 0);
         Check.due("parts of 8 count once", large::commonest, 0);
-        BlockCast tie = flat(50, 1, 0);
+        BlockCast tie = Made.flat(50, 1, 0);
         tie.setSlices(2);
         tie.code('i', 0, 0);
         Check.due("0 2 0 2", tie::commonest, 0);
@@ -700,7 +684,7 @@ final class PromiseTest {
     // ---- promises 30 to 35: the decoder
 
     private static void sendRefuses() {
-        BlockCast cast = flat(128, 8, 0);
+        BlockCast cast = Made.flat(128, 8, 0);
         Check.missing("nothing to send, and no such slice", () -> cast.send(9));
         cast.code('i', 0, 0);
         for (int lost : new int[] {2, 3, 4, -1, LEAST, MOST}) {
@@ -719,23 +703,23 @@ final class PromiseTest {
     }
 
     private static void concealing() {
-        BlockCast cast = flat(50, 1, 0);
+        BlockCast cast = Made.flat(50, 1, 0);
         cast.code('i', 0, 0);
         Check.due("all lost", () -> cast.send(1), 'b');
         Check.due("grey", () -> cast.shownAt(0, 0), 128);
         Check.due("all differ", cast::drift, 256);
-        paint(cast, 80);
+        Made.paint(cast, 80);
         cast.code('i', 0, 0);
         Check.due("'i' needs none", () -> cast.send(0), 'c');
         Check.due("no drift", cast::drift, 0);
-        paint(cast, 90);
+        Made.paint(cast, 90);
         cast.setSlices(2);
         cast.code('i', 0, 0);
         Check.due("the lower one lost", () -> cast.send(2), 'b');
         Check.due("came", () -> cast.shownAt(15, 7), 90);
         Check.due("as shown last", () -> cast.shownAt(0, 8), 80);
         Check.due("half of all differ", cast::drift, 128);
-        paint(cast, 70);
+        Made.paint(cast, 70);
         cast.code('i', 0, 0);
         Check.due("the upper one lost", () -> cast.send(1), 'b');
         Check.due("as shown last, above", () -> cast.shownAt(15, 7), 90);
@@ -756,10 +740,10 @@ final class PromiseTest {
     }
 
     private static void leaningOnBroken() {
-        BlockCast cast = flat(50, 1, 0);
+        BlockCast cast = Made.flat(50, 1, 0);
         cast.code('i', 0, 0);
         cast.code('i', 0, 0);
-        paint(cast, 60);
+        Made.paint(cast, 60);
         cast.code('p', 1, 0);
         cast.code('p', 0, 0);
         cast.code('b', 1, 2);
@@ -789,12 +773,12 @@ final class PromiseTest {
     }
 
     private static void unkeptPictures() {
-        BlockCast cast = flat(50, 1, 0);
+        BlockCast cast = Made.flat(50, 1, 0);
         cast.code('i', 0, 0);
         cast.setKept(false);
-        paint(cast, 200);
+        Made.paint(cast, 200);
         cast.code('i', 0, 0);
-        paint(cast, 50);
+        Made.paint(cast, 50);
         cast.code('p', 0, 0);
         cast.send(0);
         Check.due("lost, and not kept", () -> cast.send(1), 'b');
@@ -804,7 +788,7 @@ final class PromiseTest {
     }
 
     private static void joining() {
-        BlockCast cast = flat(128, 8, 0);
+        BlockCast cast = Made.flat(128, 8, 0);
         Check.outside("below 0", () -> cast.join(-1));
         Check.outside("beyond the next", () -> cast.join(1));
         Check.due("at the next one", () -> cast.join(0), 0);
@@ -832,13 +816,13 @@ final class PromiseTest {
     }
 
     private static void shown() {
-        BlockCast cast = flat(50, 1, 0);
+        BlockCast cast = Made.flat(50, 1, 0);
         cast.code('i', 0, 0);
         Check.missing("shown", cast::shown);
         Check.missing("isClean", cast::isClean);
         Check.missing("drift", cast::drift);
         Check.missing("shownAt", () -> cast.shownAt(0, 0));
-        for (int[] w : wrongPixels()) {
+        for (int[] w : Made.wrongPixels()) {
             Check.outside("first the pixel", () -> cast.shownAt(w[0], w[1]));
         }
         cast.send(0);
@@ -846,7 +830,7 @@ final class PromiseTest {
         Check.due("isClean", cast::isClean, true);
         Check.due("drift", cast::drift, 0);
         Check.due("shownAt", () -> cast.shownAt(15, 15), 50);
-        for (int[] w : wrongPixels()) {
+        for (int[] w : Made.wrongPixels()) {
             Check.outside("no such pixel", () -> cast.shownAt(w[0], w[1]));
         }
     }
@@ -854,7 +838,7 @@ final class PromiseTest {
     // ---- promises 36 and 37
 
     private static void totals() {
-        BlockCast cast = flat(128, 8, 0);
+        BlockCast cast = Made.flat(128, 8, 0);
         Check.due("no pictures", cast::meanBits, "throws ArithmeticException");
         Check.due("none sent", cast::cleanShare, "throws ArithmeticException");
         cast.code('i', 0, 0);
