@@ -1,4 +1,4 @@
-/** The sentences of the document on the arithmetic coder and on what is coded: slices whose bits are listed by hand. */
+/** The sentences on the arithmetic coder and on what is coded: slices whose bits are listed by hand. */
 final class BitsTest {
     private BitsTest() {
     }
@@ -17,6 +17,7 @@ final class BitsTest {
         vectorsOfBoth();
         contextsPerSlice();
         widthAtItsLimit();
+        carriedOver();
         bytesAndBits();
         Check.end("BitsTest");
     }
@@ -403,6 +404,27 @@ final class BitsTest {
             Check.due("bits", () -> cast.code('i', 0, 0), 8 * (f[3] + f[4]));
             Check.due("bytes of the upper slice", () -> cast.bytes(0, 0), f[3]);
             Check.due("bytes of the lower slice", () -> cast.bytes(0, 1), f[4]);
+        }
+    }
+
+    private static void carriedOver() {
+        Check.sentence("The arithmetic coder", "for 1, L gets B more");
+        // in these grains, which were searched for, a byte that is 255 becomes 0 by what L gets, and so does the one before
+        for (int seed : new int[] {334, 739, 2969, 286463}) {
+            BlockCast cast = Made.flat(128, 4, 0);
+            cast.grain(seed, 60);
+            cast.code('i', 0, 0);
+            Model model = new Model();
+            model.setCoarseness(4);
+            model.setTools(0);
+            model.fill(0, 0, 16, 16, 128);
+            model.grain(seed, 60);
+            model.code('i', 0, 0);
+            StringBuilder want = new StringBuilder();
+            for (int i = 0; i < model.bytes(0, 0); i++) {
+                want.append(model.byteAt(0, 0, i)).append(' ');
+            }
+            Check.due("the grain " + seed, () -> Made.bytes(cast, 0, 0), want);
         }
     }
 

@@ -18,12 +18,16 @@ final class PartsEdgeTest {
         meanOfBoth();
         costOfTheMode();
         costOfTheVector();
+        costOfBothVectors();
         vectorsReach();
         evenVectors();
         halfPlaces();
         outsideIsNearest();
         firstOfSeveralVectors();
         vectorsOfBoth();
+        eachRowAndColumnCounts();
+        noRowIsLeftOut();
+        eachKeptPictureByItself();
         levelsAreRounded();
         placesOfLevels();
         builtIsRoundedDown();
@@ -297,6 +301,17 @@ final class PartsEdgeTest {
             mode("128 and 128 plus " + m[0], cast, 8, 0, 0);
             levelAt("is exact", cast, 8, 0, 0);
         }
+        // rows that are flat from side to side are exact at the coarseness 1: a sum of 7 more, plus 8, divided by 16, is 0
+        int[][] sums = {{7, 0}, {8, 1}, {23, 1}, {24, 2}, {-8, 0}, {-9, -1}, {-24, -1}, {-25, -2}};
+        for (int[] s : sums) {
+            BlockCast cast = Made.flat(128, 1, 0);
+            cast.fill(0, 5, 8, 1, 128 + s[0]);
+            cast.fill(8, 0, 8, 8, 128 + s[1]);
+            cast.code('i', 0, 0);
+            builtAt("the row is exact", cast, 7, 5, 128 + s[0]);
+            mode("128 and in all " + s[0], cast, 8, 0, 0);
+            levelAt("is exact", cast, 8, 0, 0);
+        }
         // the same for parts of 4: 4 d plus 4, divided by 8
         BlockCast small = Made.flat(128, 1, 1);
         small.fill(0, 0, 4, 4, 133);
@@ -393,6 +408,39 @@ final class PartsEdgeTest {
         Check.due("-2, -4 costs 6, as does the mode 3", () -> modeOfPlane(10), 3);
         Check.due("0, -6 costs 6, as does the mode 3", () -> modeOfPlane(12), 3);
         Check.due("-2, -6 costs 8", () -> modeOfPlane(14), 3);
+    }
+
+    /**
+     * Codes a block 3 of one value, leaning on kept pictures that have it, or values about it, 4 pixels to the left: so
+     * the vectors are -8, 0. Above it are some columns of 1 more, each of which makes the mode 1 cost 8 and 2 in all.
+     */
+    private static BlockCast byColumns(char kind, int firstValue, int secondValue, int value, int columns) {
+        BlockCast cast = Made.flat(secondValue, 1, 4);
+        cast.fill(12, 0, 4, 16, 20);
+        cast.code('i', 0, 0);
+        Made.paint(cast, firstValue);
+        cast.fill(12, 0, 4, 16, 20);
+        cast.code('i', 0, 0);
+        Made.quarters(cast, value, value, 60, value);
+        for (int i = 0; i < columns; i++) {
+            cast.fill(9 + 2 * i, 0, 1, 8, value + 1);
+        }
+        cast.code(kind, 0, 1);
+        Check.due("all is exact", () -> cast.errorOf(0) + cast.errorOf(1) + cast.errorOf(2), 0);
+        return cast;
+    }
+
+    private static void costOfBothVectors() {
+        Check.sentence("Guesses", "and plus the lengths of the vectors that it uses for the others");
+        mode("the vector of the first for 8, the mode 1 for 2", byColumns('p', 160, 220, 160, 0), 8, 8, 1);
+        mode("or for 10", byColumns('p', 160, 220, 160, 1), 8, 8, 4);
+        mode("the vector of the second for 8, the mode 1 for 2", byColumns('b', 220, 160, 160, 0), 8, 8, 1);
+        mode("or for 10", byColumns('b', 220, 160, 160, 1), 8, 8, 5);
+        mode("both vectors for 16, the mode 1 for 10", byColumns('b', 150, 160, 155, 1), 8, 8, 1);
+        BlockCast both = byColumns('b', 150, 160, 155, 2);
+        mode("or for 18", both, 8, 8, 6);
+        Check.due("the first one's", () -> both.vectorAt(2, 8, 8, false), 8);
+        Check.due("the second one's", () -> both.vectorAt(2, 8, 8, true), 8);
     }
 
     // ---- vectors
@@ -586,6 +634,77 @@ final class PartsEdgeTest {
         Check.due("the mode 4's", () -> cast.vectorAt(3, 8, 8, false), 402);
         cast.code('p', 0, 0);
         Check.due("the mode 4's of the other one", () -> cast.vectorAt(4, 8, 8, false), 402);
+    }
+
+    /** All is flat but for one row or column, which alone tells by which vector it is guessed. */
+    private static void eachRowAndColumnCounts() {
+        Check.sentence("Vectors", "The vector for a kept picture is that with the least cost by itself");
+        for (int line = 0; line < 16; line++) {
+            int to = line;
+            int block = line / 8 * 8;
+            BlockCast rows = Made.flat(128, 1, 0);
+            BlockCast columns = Made.flat(128, 1, 0);
+            for (int i = 0; i < 16; i++) {
+                int value = noise(i, 3);
+                rows.fill(i, to, 1, 1, value);
+                columns.fill(to, i, 1, 1, value);
+            }
+            rows.code('i', 0, 0);
+            columns.code('i', 0, 0);
+            rows.setKept(false);
+            columns.setKept(false);
+            rows.move(-2, 0);
+            columns.move(0, -2);
+            rows.code('p', 0, 0);
+            columns.code('p', 0, 0);
+            Check.due("the row " + to + ", to the left", () -> rows.vectorAt(1, 0, block, false), 1208);
+            Check.due("the column " + to + ", upwards", () -> columns.vectorAt(1, block, 0, false), 812);
+            rows.move(4, 0);
+            columns.move(0, 4);
+            rows.code('p', 0, 0);
+            columns.code('p', 0, 0);
+            Check.due("the row " + to + ", to the right", () -> rows.vectorAt(2, 8, block, false), 408);
+            Check.due("the column " + to + ", downwards", () -> columns.vectorAt(2, block, 8, false), 804);
+        }
+    }
+
+    /** All vectors fail for one row, and so the shortest one is taken, for the first and for the last row, too. */
+    private static void noRowIsLeftOut() {
+        Check.sentence("Vectors", "with the least cost by itself, its length included");
+        for (int row = 0; row < 16; row++) {
+            int of = row;
+            int block = row / 8 * 8;
+            BlockCast cast = Made.flat(100, 1, 4);
+            cast.setSlices(2);
+            cast.code('i', 0, 0);
+            cast.fill(0, of, 16, 1, 200);
+            cast.code('p', 0, 0);
+            Check.due("the row " + of + " at the left", () -> cast.vectorAt(1, 0, block, false), 808);
+            cast.fill(0, block, 8, 8, 20);
+            cast.code('p', 1, 0);
+            Check.due("the row " + of + " at the right", () -> cast.vectorAt(2, 8, block, false), 808);
+        }
+    }
+
+    private static void eachKeptPictureByItself() {
+        Check.sentence("Vectors", "The vector for a kept picture is that with the least cost by itself");
+        BlockCast cast = noisy(0);
+        cast.setKept(true);
+        cast.move(3, 1);
+        String moved = Made.canvas(cast);
+        Made.paint(cast, 250);
+        cast.code('i', 0, 0);
+        cast.setKept(false);
+        for (int place = 136; place < 256; place++) {
+            int value = Integer.parseInt(moved.split(" ")[place]);
+            cast.fill(place % 16, place / 16, 1, 1, value);
+        }
+        cast.code('b', 0, 1);
+        mode("the second one is the noisy one", cast, 8, 8, 5);
+        Check.due("with its vector", () -> cast.vectorAt(2, 8, 8, true), 206);
+        cast.code('b', 1, 0);
+        mode("the first one is", cast, 8, 8, 4);
+        Check.due("with its vector", () -> cast.vectorAt(3, 8, 8, false), 206);
     }
 
     /** Squares of 4 times 4 pixels, each of one value, which no move makes alike. */
