@@ -409,22 +409,25 @@ final class BitsTest {
 
     private static void carriedOver() {
         Check.sentence("The arithmetic coder", "for 1, L gets B more");
-        // in these grains, which were searched for, a byte that is 255 becomes 0 by what L gets, and so does the one before
-        for (int seed : new int[] {334, 739, 2969, 286463}) {
-            BlockCast cast = Made.flat(128, 4, 0);
-            cast.grain(seed, 60);
+        // in these grains, which were searched for, a byte that is 255 becomes 0 by what L gets, and the one before it gets
+        // 1: in the first ones two or three such bytes behind one another, in the last ones the second byte of all
+        int[][] found = {{0, 4, 128, 334, 60}, {0, 4, 128, 739, 60}, {0, 4, 128, 2969, 60}, {0, 4, 128, 286463, 60},
+            {5, 29, 161, 11, 22}, {5, 36, 47, 58, 27}, {6, 20, 14, 397, 16}};
+        for (int[] f : found) {
+            BlockCast cast = Made.flat(f[2], f[1], f[0]);
+            cast.grain(f[3], f[4]);
             cast.code('i', 0, 0);
             Model model = new Model();
-            model.setCoarseness(4);
-            model.setTools(0);
-            model.fill(0, 0, 16, 16, 128);
-            model.grain(seed, 60);
+            model.setTools(f[0]);
+            model.setCoarseness(f[1]);
+            model.fill(0, 0, 16, 16, f[2]);
+            model.grain(f[3], f[4]);
             model.code('i', 0, 0);
             StringBuilder want = new StringBuilder();
             for (int i = 0; i < model.bytes(0, 0); i++) {
                 want.append(model.byteAt(0, 0, i)).append(' ');
             }
-            Check.due("the grain " + seed, () -> Made.bytes(cast, 0, 0), want);
+            Check.due("the grain " + f[3], () -> Made.bytes(cast, 0, 0), want);
         }
     }
 

@@ -27,6 +27,7 @@ final class PartsEdgeTest {
         vectorsOfBoth();
         eachRowAndColumnCounts();
         noRowIsLeftOut();
+        noOtherPixelCounts();
         eachKeptPictureByItself();
         levelsAreRounded();
         placesOfLevels();
@@ -387,8 +388,8 @@ final class PartsEdgeTest {
     }
 
     /** A 'p' picture of a plane on a kept one that is more by a number; the mode 3 guesses its block 3 for 6. */
-    private static int modeOfPlane(int more) {
-        BlockCast cast = Made.flat(0, 1, 0);
+    private static int modeOfPlane(int more, int tools) {
+        BlockCast cast = Made.flat(0, 1, tools);
         cast.slope(60, 2, 4);
         cast.code('i', 0, 0);
         cast.slope(60 - more, 2, 4);
@@ -401,13 +402,16 @@ final class PartsEdgeTest {
     private static void costOfTheVector() {
         Check.sentence("Guesses", "and plus the lengths of the vectors that it uses for the others; the length "
                 + "of a vector is the sum of both of its numbers without signs");
-        Check.due("0, 0 costs 0", () -> modeOfPlane(0), 4);
-        Check.due("0, -2 costs 2", () -> modeOfPlane(4), 4);
-        Check.due("-2, -2 costs 4", () -> modeOfPlane(6), 4);
-        Check.due("0, -4 costs 4", () -> modeOfPlane(8), 4);
-        Check.due("-2, -4 costs 6, as does the mode 3", () -> modeOfPlane(10), 3);
-        Check.due("0, -6 costs 6, as does the mode 3", () -> modeOfPlane(12), 3);
-        Check.due("-2, -6 costs 8", () -> modeOfPlane(14), 3);
+        Check.due("0, 0 costs 0", () -> modeOfPlane(0, 0), 4);
+        Check.due("0, -2 costs 2", () -> modeOfPlane(4, 0), 4);
+        Check.due("-2, -2 costs 4", () -> modeOfPlane(6, 0), 4);
+        Check.due("0, -4 costs 4", () -> modeOfPlane(8, 0), 4);
+        Check.due("-2, -4 costs 6, as does the mode 3", () -> modeOfPlane(10, 0), 3);
+        Check.due("0, -6 costs 6, as does the mode 3", () -> modeOfPlane(12, 0), 3);
+        Check.due("-2, -6 costs 8", () -> modeOfPlane(14, 0), 3);
+        Check.due("0, -5 costs 5", () -> modeOfPlane(10, 4), 4);
+        Check.due("0, -6 costs 6", () -> modeOfPlane(12, 4), 3);
+        Check.due("-1, -6 costs 7", () -> modeOfPlane(13, 4), 3);
     }
 
     /**
@@ -668,6 +672,20 @@ final class PartsEdgeTest {
         }
     }
 
+    /** A block that is flat, as in the kept picture, is not moved, though what is below it is. */
+    private static void noOtherPixelCounts() {
+        Check.sentence("Vectors", "with the least cost by itself, its length included");
+        BlockCast cast = Made.flat(0, 1, 0);
+        Made.paint(cast, 50);
+        cast.fill(0, 8, 16, 8, 90);
+        cast.fill(3, 8, 2, 8, 160);
+        cast.code('i', 0, 0);
+        cast.move(2, 0);
+        cast.code('p', 0, 0);
+        Check.due("the block 0", () -> cast.vectorAt(lastPicture(cast), 0, 0, false), 808);
+        Check.due("the block below it", () -> cast.vectorAt(lastPicture(cast), 0, 8, false), 408);
+    }
+
     /** All vectors fail for one row, and so the shortest one is taken, for the first and for the last row, too. */
     private static void noRowIsLeftOut() {
         Check.sentence("Vectors", "with the least cost by itself, its length included");
@@ -861,7 +879,8 @@ final class PartsEdgeTest {
             for (int row = 0; row < 16; row++) {
                 int y = row;
                 Check.due("across x of " + x + " at " + y, () -> cast.built(0, x - 2, y) + " "
-                        + cast.built(0, x - 1, y) + " " + cast.built(0, x, y) + " " + cast.built(0, x + 1, y), "128 130 134 136");
+                        + cast.built(0, x - 1, y) + " " + cast.built(0, x, y) + " " + cast.built(0, x + 1, y),
+                        "128 130 134 136");
             }
         }
         for (int slices = 1; slices <= 2; slices++) {
@@ -882,12 +901,23 @@ final class PartsEdgeTest {
                 }
             }
         }
-        BlockCast cast = Made.flat(128, 8, 2);
-        cast.fill(2, 0, 14, 16, 136);
-        cast.setCoarseness(1);
-        cast.code('i', 0, 0);
-        builtAt("no edge at 2, a", cast, 1, 1, 128);
-        builtAt("no edge at 2, b", cast, 2, 1, 136);
+        Check.sentence("Smoothing", "for x of 4, 8 and 12, and each y");
+        BlockCast dark = Made.flat(8, 8, 2);
+        dark.code('i', 0, 0);
+        Check.due("no edge is at the sides of the picture", () -> dark.errorOf(0), 0);
+        BlockCast slope = Made.flat(0, 8, 2);
+        slope.slope(60, 0, 3);
+        slope.code('i', 0, 0);
+        BlockCast rough = Made.flat(0, 8, 0);
+        rough.slope(60, 0, 3);
+        rough.code('i', 0, 0);
+        for (int row = 0; row < 16; row++) {
+            int y = row;
+            Check.due("each x is smoothed alike, at " + y, () -> slope.built(0, 0, y), slope.built(0, 1, y));
+            if (row % 4 == 1 || row % 4 == 2) {
+                Check.due("no edge is at " + y, () -> slope.built(0, 1, y), rough.built(0, 1, y));
+            }
+        }
     }
 
     private static void smoothedInOrder() {

@@ -29,7 +29,8 @@ final class PicturesEdgeTest {
     /** Every call that asks a picture, with its number, and with a pixel where there is one. */
     private static Check.Call[] asking(BlockCast cast, int picture, int x, int y) {
         return new Check.Call[] {() -> cast.kindOf(picture), () -> cast.coarsenessOf(picture),
-            () -> cast.bytes(picture, 0), () -> cast.byteAt(picture, 0, 0), () -> cast.partAt(picture, x, y), () -> cast.modeAt(picture, x, y),
+            () -> cast.bytes(picture, 0), () -> cast.byteAt(picture, 0, 0),
+            () -> cast.partAt(picture, x, y), () -> cast.modeAt(picture, x, y),
             () -> cast.vectorAt(picture, x, y, false), () -> cast.vectorAt(picture, x, y, true),
             () -> cast.levelAt(picture, x, y), () -> cast.built(picture, x, y), () -> cast.errorOf(picture)};
     }
