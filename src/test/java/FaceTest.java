@@ -58,6 +58,7 @@ final class FaceTest {
 
     public static void main(String[] args) throws IOException {
         face();
+        faceOfTheDocument(Files.readString(Path.of("src/main/java/BlockCast.java")));
         classes();
         text(Files.readAllLines(Path.of("src/main/java/BlockCast.java")));
         manyCalls();
@@ -101,6 +102,28 @@ final class FaceTest {
                 Check.due("at most seven parameters: " + method, () -> method.getParameterCount() <= 7, true);
             }
         }
+    }
+
+    /** The class declares what the document's face declares, word by word and in its order, and each promise tells it. */
+    private static void faceOfTheDocument(String source) throws IOException {
+        String words = source.replaceAll("\\s+", " ");
+        String document = Files.readString(Path.of("../shared/DOC.md"));
+        int at = 0;
+        int declared = 0;
+        for (String line : document.substring(0, document.indexOf("## Terms")).split("\n")) {
+            if (!line.startsWith("    public ")) {
+                continue;
+            }
+            String call = line.strip().replace(";", "");
+            int found = words.indexOf(call + " {", at);
+            Check.due("declared behind the one before: " + call, () -> found >= 0, true);
+            Check.due("told by a promise: " + call,
+                    () -> document.contains("\n`" + call.replace("public ", "") + "`: "), true);
+            at = Math.max(at, found);
+            declared++;
+        }
+        int count = declared;
+        Check.due("a constructor and 36 calls", () -> count, 37);
     }
 
     private static List<Class<?>> withNested() {
