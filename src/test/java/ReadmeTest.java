@@ -57,7 +57,9 @@ final class ReadmeTest {
         Path folder = Files.createTempDirectory("readme");
         PrintStream out = System.out;
         ByteArrayOutputStream printed = new ByteArrayOutputStream();
-        try (URLClassLoader loader = new URLClassLoader(new URL[] {folder.toUri().toURL()})) {
+        URL[] classes = {folder.toUri().toURL()};
+        // not the test's own loader, which could know another Example
+        try (URLClassLoader loader = new URLClassLoader(classes, ClassLoader.getPlatformClassLoader())) {
             Path source = Files.writeString(folder.resolve("Example.java"), program);
             int failed = ToolProvider.getSystemJavaCompiler().run(null, null, null, "-Xlint:all", "-Werror", "-d",
                     folder.toString(), source.toString(), "src/main/java/BlockCast.java");
